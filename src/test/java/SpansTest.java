@@ -151,6 +151,9 @@ public final class SpansTest {
         y.seal(1);
         DUE.is("13 half both: least", y.join(0), 2);
         DUE.is("13 half both: greatest", y.join(1), 2 + 1 * 5 + 2 * 3);
+        y.read(0, 0);
+        DUE.is("13 the second half: least", y.join(0), 2);
+        DUE.is("13 the second half: greatest", y.join(1), 2 + 3 * 3);
     }
 
     private static void part() {
@@ -180,6 +183,7 @@ public final class SpansTest {
         DUE.is("14 only the first has it", y.part(100, 99), SpanStore.NOT);
         DUE.is("14 the second keeper", y.part(7, 0), 3);
         y.clear(0);
+        DUE.is("14 the first is open", y.part(7, 0), SpanStore.STATE);
         y.keeper(0, 1, 1, 0);
         y.seal(0);
         DUE.is("14 only the second has it", y.part(7, 0), SpanStore.NOT);
@@ -215,6 +219,9 @@ public final class SpansTest {
         Due.values(y, 1, 7, 3, 3, 3);
         y.seal(1);
         DUE.is("15 half, but not apart", y.next(1, -1), SpanStore.NONE);
+        Due.values(y, 0, 5, 3, 4, 4);
+        y.seal(0);
+        DUE.is("15 apart by one", y.next(0, -1), 5);
     }
 
     private static SpanStore threeBlocks() {

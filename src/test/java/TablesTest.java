@@ -129,6 +129,9 @@ public final class TablesTest {
         x.put(0, 0, 3, -1);
         DUE.is("3 a key below", x.load(0, 0, 0, 1, 2, 4), SpanStore.BAD);
         DUE.is("3 nothing of it stays", x.told(0), 0);
+        x.put(0, 0, 0, 100);
+        DUE.is("3 the first key is none", x.load(0, 0, 0, 1, 2, 1), SpanStore.BAD);
+        x.put(0, 0, 0, 10);
         x.put(1, 1, 2, 4);
         DUE.is("3 a group that is none", x.load(0, 0, 0, 1, 2, 3), SpanStore.BAD);
         x.put(2, 2, 1, 1001);
