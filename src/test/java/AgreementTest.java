@@ -16,6 +16,7 @@ public final class AgreementTest {
     private final int heavy;
     private long leastSum, greatestSum;
     private int leastCount, greatestCount;
+    private int toldLeast, toldGreatest;
 
     private AgreementTest(long seed) {
         random = new Random(seed);
@@ -70,6 +71,8 @@ public final class AgreementTest {
     }
 
     private void look(String when) {
+        toldLeast = store.about(0, 3, 1);
+        toldGreatest = store.about(0, 3, 2);
         for (int g = -1; g < 2; g++) {
             for (int x = -REACH - 1; x <= REACH + 1; x++) {
                 goThrough(g, x);
@@ -118,7 +121,7 @@ public final class AgreementTest {
             sum += g == -1 || group[i] == g ? value : 0;
             count += value >= x ? 1 : 0;
         }
-        if (least != store.about(0, 3, 1) || greatest != store.about(0, 3, 2)) {
+        if (least != toldLeast || greatest != toldGreatest) {
             return;
         }
         leastSum = Math.min(leastSum, sum);

@@ -1,4 +1,9 @@
-/** Counts the answers of one test, prints those that are not due, and ends it with 1 if there was one. */
+import java.util.List;
+
+/**
+ * Counts the answers of one test class, prints those that are not due, and ends it with 1 if there was one.
+ * Where tests go by sentences of the document, an answer counts for the sentence that was told last.
+ */
 final class Due {
     static final int LEAST_INT = Integer.MIN_VALUE;
     static final long LEAST_LONG = Long.MIN_VALUE;
@@ -6,12 +11,23 @@ final class Due {
 
     private int asked;
     private int wrong;
+    private int sentences;
+    private int askedBefore;
+    private String sentence = "";
+
+    /** The next answers are those of one sentence: where it stands, and its own words. */
+    void sentence(String where, String words) {
+        closeSentence();
+        sentence = where + " \"" + words + "\": ";
+        sentences++;
+        askedBefore = asked;
+    }
 
     void is(String call, long got, long want) {
         asked++;
         if (got != want) {
             wrong++;
-            System.out.println(call + " answered " + got + ", due is " + want);
+            System.out.println(sentence + call + " answered " + got + ", due is " + want);
         }
     }
 
@@ -19,10 +35,30 @@ final class Due {
         is(what, fact ? 1 : 0, 1);
     }
 
+    /** Two lists of calls with their answers, as a Photo has them. */
+    void same(String what, List<String> got, List<String> want) {
+        int i = 0;
+        while (i < got.size() && i < want.size() && got.get(i).equals(want.get(i))) {
+            i++;
+        }
+        boolean alike = i == got.size() && i == want.size();
+        String first = i < got.size() && i < want.size() ? got.get(i) + ", not " + want.get(i) : "as many answers";
+        holds(alike ? what : what + " (" + first + ")", alike);
+    }
+
     void end() {
-        System.out.println(asked + " answers, " + wrong + " not as due");
+        closeSentence();
+        String of = sentences > 0 ? " of " + sentences + " sentences" : "";
+        System.out.println(asked + " answers" + of + ", " + wrong + " not as due");
         if (asked == 0 || wrong != 0) {
             System.exit(1);
+        }
+    }
+
+    private void closeSentence() {
+        if (sentences > 0 && asked == askedBefore) {
+            wrong++;
+            System.out.println(sentence + "nothing was asked");
         }
     }
 
