@@ -26,9 +26,18 @@ final class Refusals {
                 x.sheet(0, 0, -1);
                 twin.sheet(0, 0, -1);
             }
-            due.is(call, asked.applyAsLong(x), answer);
+            ask(call, asked, x, answer);
             due.is(call + ": told(3)", x.told(3), finding == 0 ? earlier : finding);
             due.same(call + ": nothing changes", Photo.of(x), Photo.of(twin));
+        }
+    }
+
+    /** A call that throws is told with its sentence, so that those behind it are still looked at. */
+    private void ask(String call, ToLongFunction<SpanStore> asked, SpanStore x, long answer) {
+        try {
+            due.is(call, asked.applyAsLong(x), answer);
+        } catch (RuntimeException thrown) {
+            due.holds(call + " threw " + thrown, false);
         }
     }
 }

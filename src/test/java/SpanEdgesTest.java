@@ -425,5 +425,25 @@ public final class SpanEdgesTest {
         y.seal(0);
         y.seal(1);
         DUE.is("EVERY and STRATA of the same a are none", y.part(3, 0), NOT);
+        keyedAmongFour();
+    }
+
+    private static void keyedAmongFour() {
+        SpanStore x = new SpanStore();
+        int[][] four = {{0, 4, 0}, {2, 4, 1}, {3, 4, 0}, {2, 4, 2}};
+        for (int t = 0; t < 2; t++) {
+            for (int[] k : four) {
+                x.keeper(t, k[0], k[1], k[2]);
+            }
+            x.row(t, 0, 2, 0, 0);
+            x.seal(t);
+        }
+        DUE.is("the last of four", x.part(4, 2), 1);
+        DUE.is("one between", x.part(4, 1), 0);
+        DUE.is("none of four, EVERY and HEAVY of the same a", x.part(4, 0), NOT);
+        x.clear(0);
+        x.keeper(0, 0, 4, 0);
+        x.seal(0);
+        DUE.is("one that the first had till it was cleared", x.part(4, 1), NOT);
     }
 }
