@@ -42,7 +42,7 @@ public final class SpanStore {
     public int row(int table, int block, int key, int group, int value) {
         Table t = tableAt(table);
         Block b = blockAt(t, block);
-        if (b == null || !isRow(key, group, value)) {
+        if (t == null || b == null || !isRow(key, group, value)) {
             return BAD;
         }
         if (t.sealed) {
@@ -61,7 +61,10 @@ public final class SpanStore {
         Sheet keys = sheetAt(k);
         Sheet groups = sheetAt(g);
         Sheet values = sheetAt(v);
-        if (b == null || keys == null || groups == null || values == null || n < 1 || n > ROWS) {
+        if (t == null || b == null || n < 1 || n > ROWS) {
+            return BAD;
+        }
+        if (keys == null || groups == null || values == null) {
             return BAD;
         }
         if (t.sealed) {
@@ -128,7 +131,7 @@ public final class SpanStore {
     public int read(int table, int block) {
         Table t = tableAt(table);
         Block b = blockAt(t, block);
-        if (b == null) {
+        if (t == null || b == null) {
             return BAD;
         }
         if (!t.sealed) {
@@ -140,7 +143,7 @@ public final class SpanStore {
     public int change(int table, int block, int row, int value) {
         Table t = tableAt(table);
         Block b = blockAt(t, block);
-        if (b == null || !b.hasRow(row) || !isValue(value)) {
+        if (t == null || b == null || !b.hasRow(row) || !isValue(value)) {
             return BAD;
         }
         if (!t.sealed) {
@@ -153,7 +156,7 @@ public final class SpanStore {
     public int value(int table, int block, int row) {
         Table t = tableAt(table);
         Block b = blockAt(t, block);
-        if (b == null || !b.hasRow(row) || !t.sealed || !b.known[row]) {
+        if (t == null || b == null || !b.hasRow(row) || !t.sealed || !b.known[row]) {
             return Integer.MIN_VALUE;
         }
         return b.values[row];
@@ -162,7 +165,7 @@ public final class SpanStore {
     public int about(int table, int block, int what) {
         Table t = tableAt(table);
         Block b = blockAt(t, block);
-        if (b == null || !isFact(what) || !t.sealed) {
+        if (t == null || b == null || !isFact(what) || !t.sealed) {
             return Integer.MIN_VALUE;
         }
         return b.fact(what);
